@@ -1,110 +1,5 @@
-import java.util.NoSuchElementException;
-
 /** Each promise of the document in turn: ordinary calls, the named edges, and wrong arguments. */
-public final class PromiseTests {
-    private static final Class<?> ARGUMENT = IllegalArgumentException.class;
-    private static final Class<?> STATE = IllegalStateException.class;
-    private static final Class<?> ELEMENT = NoSuchElementException.class;
-    private static final Class<?> INDEX = IndexOutOfBoundsException.class;
-    private static final Class<?> ARITHMETIC = ArithmeticException.class;
-
-    private static final int ENTRIES = 0;
-    private static final int POSITIONS = 1;
-    private static final int CHANGES = 2;
-    private static final int REMOVALS = 3;
-    private static final int SEGMENTS = 4;
-    private static final int LOOKUPS = 5;
-    private static final int PROBES = 6;
-    private static final int PAGES = 7;
-    private static final int DEBT = 8;
-    private static final int MERGINGS = 9;
-
-    private static final int BOUND = 0;
-    private static final int CAPACITY = 1;
-    private static final int PAGE_SIZE = 2;
-    private static final int FACTOR = 3;
-
-    private static int promise = 0;
-    private static int wrong = 0;
-
-    private interface Call {
-        Object answer();
-    }
-
-    private static void due(String what, Object got, Object want) {
-        if (!got.equals(want)) {
-            wrong++;
-            System.out.println("promise " + promise + ": " + what + " answered " + got + ", due is " + want);
-        }
-    }
-
-    private static void refused(String what, Class<?> exception, Call call) {
-        Object got;
-        try {
-            got = call.answer();
-        } catch (RuntimeException e) {
-            got = e.getClass();
-        }
-        due(what, got, exception);
-    }
-
-    /** The five counts of the tallies: lookups, probes, pages, debt, mergings. */
-    private static void dueTallies(LearnedIndex x, int... want) {
-        for (int i = 0; i < 5; i++) {
-            due("count(" + (i + 5) + ")", x.count(i + 5), want[i]);
-        }
-    }
-
-    private static LearnedIndex buffered(int... keys) {
-        LearnedIndex x = new LearnedIndex();
-        x.set(CAPACITY, 20);
-        for (int key : keys) {
-            x.put(key, key * 10);
-        }
-        return x;
-    }
-
-    /** Keys with ten times themselves as values, in the main part, under the first settings. */
-    private static LearnedIndex merged(int... keys) {
-        LearnedIndex x = new LearnedIndex();
-        for (int key : keys) {
-            x.put(key, key * 10);
-        }
-        x.merge();
-        return x;
-    }
-
-    /** One segment of slope 1/7 with the first bound: (3 - 2) / (8 - 1) is the steepest need. */
-    private static LearnedIndex powers() {
-        return merged(1, 2, 4, 8, 16, 32, 33);
-    }
-
-    /** With bound 1 three segments, 3 4 5, 13 14 15 and 22, but 3 4 and 5 13 14 15 22 are enough. */
-    private static LearnedIndex clusters() {
-        LearnedIndex x = merged(3, 4, 5, 13, 14, 15, 22);
-        x.set(BOUND, 1);
-        return x;
-    }
-
-    private static LearnedIndex full() {
-        LearnedIndex x = new LearnedIndex();
-        for (int i = 0; i < 150; i++) {
-            x.put(i * 66, i);
-        }
-        return x;
-    }
-
-    private static void feedAll(LearnedIndex x, String text) {
-        for (char letter : text.toCharArray()) {
-            x.feed(letter);
-        }
-    }
-
-    private static int loaded(LearnedIndex x, String text) {
-        feedAll(x, text);
-        return x.load();
-    }
-
+public final class PromiseTests extends Checks {
     private static void aNewObject() {
         LearnedIndex x = new LearnedIndex();
         for (int what = 0; what < 10; what++) {
@@ -336,17 +231,6 @@ public final class PromiseTests {
         due("clear of an empty index", x.clear(), 0);
     }
 
-    /** The keys 1, 2, 3, 16, 20, 32, 33 from both parts. */
-    private static LearnedIndex mixed() {
-        LearnedIndex x = powers();
-        x.remove(4);
-        x.remove(8);
-        x.put(3, 5);
-        x.put(20, -7);
-        x.put(16, Integer.MAX_VALUE);
-        return x;
-    }
-
     private static void keyAt() {
         LearnedIndex x = mixed();
         int[] keys = {1, 2, 3, 16, 20, 32, 33};
@@ -489,12 +373,6 @@ public final class PromiseTests {
         due("debt", y.count(DEBT), 0);
     }
 
-    private static void dueSegment(LearnedIndex x, int segment, int... want) {
-        for (int what = 0; what < 5; what++) {
-            due("segment(" + segment + ", " + what + ")", x.segment(segment, what), want[what]);
-        }
-    }
-
     private static void segment() {
         dueSegment(powers(), 0, 0, 6, 1, 1, 7);
         LearnedIndex x = clusters();
@@ -550,12 +428,6 @@ public final class PromiseTests {
         LearnedIndex empty = buffered(5);
         refused("segmentOf(5) without a main part", STATE, () -> empty.segmentOf(5));
         refused("segmentOf(-1) without a main part", ARGUMENT, () -> empty.segmentOf(-1));
-    }
-
-    private static void duePredictions(LearnedIndex x, int key, int... want) {
-        for (int what = 0; what < 4; what++) {
-            due("predict(" + key + ", " + what + ")", x.predict(key, what), want[what]);
-        }
     }
 
     private static void predict() {
@@ -631,16 +503,6 @@ public final class PromiseTests {
         refused("leastBound(-1) without a main part", ARGUMENT, () -> empty.leastBound(-1));
         due("leastBound(1) of 18 keys", farThenClose(18).leastBound(1), 8);
         refused("leastBound(1) of 19 keys", ELEMENT, () -> farThenClose(19).leastBound(1));
-    }
-
-    /** With bound 8 position 1 allows 9/1000 and 17 asks for 9/1017, but 18 for 10/1018. */
-    private static LearnedIndex farThenClose(int keys) {
-        LearnedIndex x = new LearnedIndex();
-        for (int i = 0; i < keys; i++) {
-            x.put(i == 0 ? 0 : 999 + i + (i > 1 ? 1 : 0), i);
-        }
-        x.merge();
-        return x;
     }
 
     private static void probes() {
@@ -874,13 +736,12 @@ public final class PromiseTests {
             {PromiseTests::feed}, {PromiseTests::load, PromiseTests::loadMerges, PromiseTests::loadOverflow},
             {PromiseTests::save}, {PromiseTests::restore},
         };
-        for (Runnable[] ofPromise : tests) {
-            promise++;
-            for (Runnable test : ofPromise) {
-                test.run();
+        for (int i = 0; i < tests.length; i++) {
+            subject = "promise " + (i + 1);
+            for (Runnable test : tests[i]) {
+                run(test);
             }
         }
-        System.out.println(wrong == 0 ? "all answers are as due" : wrong + " answers are not as due");
-        System.exit(wrong == 0 ? 0 : 1);
+        end();
     }
 }
