@@ -276,8 +276,12 @@ public final class BoundaryTests extends Sentences {
             due("contains(" + key + ")", x.contains(key), false);
         }
         due("sum of all", x.sum(LEAST, GREATEST), 0L);
-        refused("segmentOf(1)", STATE, () -> x.segmentOf(1));
         refused("keyAt(0)", INDEX, () -> x.keyAt(0));
+        refused("main(0)", INDEX, () -> x.main(0, false));
+        refused("change(0)", INDEX, () -> x.change(0, 0));
+        refused("segment(0)", INDEX, () -> x.segment(0, 0));
+        refused("segmentOf(1)", STATE, () -> x.segmentOf(1));
+        due("probes(16)", x.probes(16), 0);
         LearnedIndex y = full();
         y.clear();
         due("put into the cleared index", y.put(9999, 1), 1);
@@ -776,6 +780,8 @@ public final class BoundaryTests extends Sentences {
         refused("leastBound(-1)", ARGUMENT, () -> powers().leastBound(-1));
         refused("leastBound of the least int", ARGUMENT, () -> powers().leastBound(LEAST));
         refused("leastBound(-1) of an empty main part", ARGUMENT, () -> buffered(5).leastBound(-1));
+        due("leastBound(0), which is not negative", buffered(5).leastBound(0), 1);
+        refused("leastBound(0) of one key", ELEMENT, () -> merged(5).leastBound(0));
     }
 
     private static void noSuchBound() {
@@ -973,6 +979,10 @@ public final class BoundaryTests extends Sentences {
         refused("a removal twice", STATE, () -> loaded(x, "0!;0!;1=1;2=2"));
         refused("a removed key again", STATE, () -> loaded(x, "0!;1=1;0=0"));
         refused("removed, put, and one more", STATE, () -> loaded(x, "0!;0=0;1=1"));
+        refused("removed behind a value and removed again", STATE, () -> loaded(x, "0=1;0!;0!;1=1;2=2"));
+        due("removed, put and removed, and one more", loaded(x, "66!;66=1;66!;1=1"), 4);
+        due("and back", loaded(x, "1!;66=1"), 2);
+        due("removed, and put twice", loaded(x, "0!;0=1;0=2"), 3);
         due("keys that are there", loaded(x, "0=1;9834=1;0=2"), 3);
         due("one removed and one more", loaded(x, "66!;1=1"), 2);
         due("entries", x.count(ENTRIES), 150);
@@ -1140,9 +1150,11 @@ public final class BoundaryTests extends Sentences {
         says(BoundaryTests::lesserKeys, "that are less than a number", "Returns the number of keys.");
         says(BoundaryTests::ranksOfAnyNumber, "`number`: the number");
         in("Promise 10");
-        says(BoundaryTests::theNearestKeyOnASide, "Returns the key of the index that is nearest to a number on one side.",
+        says(BoundaryTests::theNearestKeyOnASide,
+            "Returns the key of the index that is nearest to a number on one side.",
             "`number`: the number", "Returns the key.");
-        says(BoundaryTests::theNumberItselfIsNearest, "not less than the number, false for the greatest key that is not");
+        says(BoundaryTests::theNumberItselfIsNearest,
+            "not less than the number, false for the greatest key that is not");
         says(BoundaryTests::noNeighbor, "Throws `NoSuchElementException` if there is no such key");
         in("Promise 11");
         says(BoundaryTests::sumsOverBothParts, "Returns the sum of the values of all keys in a range.");
@@ -1166,7 +1178,8 @@ public final class BoundaryTests extends Sentences {
         says(BoundaryTests::mergeEmptiesTheBuffer, "Merges the buffer.");
         says(BoundaryTests::mergeReturnsTheChanges, "Returns the number of changes that were in it.");
         in("Promise 15");
-        says(BoundaryTests::setSetsEachOfTheFour, "Sets a setting.", "`what`: 0 the bound, 1", "`value`: the new value");
+        says(BoundaryTests::setSetsEachOfTheFour,
+            "Sets a setting.", "`what`: 0 the bound, 1", "`value`: the new value");
         says(BoundaryTests::theBoundBuildsSegmentsWithoutMerging, "Setting the bound builds the segments anew");
         says(BoundaryTests::theCapacityMergesAboveItself, "merges the buffer if it has more changes than that");
         says(BoundaryTests::otherSettingsMergeNothing, "without merging");
@@ -1225,7 +1238,8 @@ public final class BoundaryTests extends Sentences {
         says(BoundaryTests::loadAppliesTheEntries, "applies them one after the other, as put and remove do");
         says(BoundaryTests::loadDoesNotRemoveWhatIsNotThere, "keys that the index does not contain are not removed");
         says(BoundaryTests::theInputBufferIsEmptyAfterwards, "The input buffer is empty afterwards, also after");
-        says(BoundaryTests::nothingIsAppliedIfThereAreTooMany, "If there would be too many entries, nothing is applied.");
+        says(BoundaryTests::nothingIsAppliedIfThereAreTooMany,
+            "If there would be too many entries, nothing is applied.");
         says(BoundaryTests::loadReturnsTheNumberOfEntries, "Returns the number of entries of the text");
         says(BoundaryTests::loadReturnsTheErrorPosition, "-100 minus the error position after a syntax error");
         says(BoundaryTests::moreThan150AfterAnEntry, "more than 150 entries after one of the entries of the text");

@@ -658,6 +658,19 @@ public final class DescriptionTests extends Sentences {
         due("debt 1 beside no positions", y.count(MERGINGS), 1);
     }
 
+    private static void anEmptyBufferIsMergedByItsDebt() {
+        LearnedIndex x = buffered(5);
+        x.get(5);
+        x.get(5);
+        x.remove(5);
+        due("debt that stays", x.count(DEBT), 2);
+        x.set(FACTOR, 2);
+        refused("get(5)", ELEMENT, () -> x.get(5));
+        dueTallies(x, 3, 0, 0, 0, 1);
+        refused("get(5) without a debt", ELEMENT, () -> x.get(5));
+        dueTallies(x, 4, 0, 0, 0, 1);
+    }
+
     private static void everyMergingMakesTheDebt0() {
         LearnedIndex byCall = indebted();
         byCall.merge();
@@ -952,9 +965,12 @@ public final class DescriptionTests extends Sentences {
         says(DescriptionTests::aFactorOf0MergesNothing, "if the factor is not 0");
         says(DescriptionTests::mergedWhenTheDebtIsReached, "1 plus the factor times the number of positions");
         says(DescriptionTests::mergedAtJustTheDebt, "the debt is at least 1 plus");
+        says(DescriptionTests::anEmptyBufferIsMergedByItsDebt,
+            "number of positions of the main part, the buffer is merged");
         says(DescriptionTests::everyMergingMakesTheDebt0, "Merging, by whatever reason, makes the debt 0.");
         in("Texts");
-        says(DescriptionTests::braces, "A text of entries has the form", "text = [ entry {", "braces mean zero or more");
+        says(DescriptionTests::braces,
+            "A text of entries has the form", "text = [ entry {", "braces mean zero or more");
         says(DescriptionTests::brackets, "brackets that something may be missing", "entry = number (");
         says(DescriptionTests::numbersOf1To4Digits, "a number consists of 1 to 4 digits");
         says(DescriptionTests::onlyTheDigits0To9, "a number consists of 1 to 4 digits");
