@@ -368,6 +368,11 @@ public final class BoundaryTests extends Sentences {
         due("down from the greatest int", x.neighbor(GREATEST, false), 33);
         due("up from a removed key", x.neighbor(8, true), 16);
         due("down from a removed key", x.neighbor(8, false), 3);
+        LearnedIndex y = merged(1, 2, 3);
+        y.remove(3);
+        due("down from the removed last key", y.neighbor(3, false), 2);
+        y.remove(1);
+        due("up from the removed first key", y.neighbor(1, true), 2);
     }
 
     private static void theNumberItselfIsNearest() {
