@@ -577,7 +577,7 @@ public final class LearnedIndex {
 
         int lesserThan(int number) {
             int lesser = 0;
-            while (lesser < size && key(lesser) < number) {
+            while (lesser < size && cell(keys, lesser) < number) {
                 lesser++;
             }
             return lesser;
