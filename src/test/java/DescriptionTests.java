@@ -1,9 +1,129 @@
 import java.io.IOException;
 import java.util.function.Supplier;
 
-/** Each sentence of the document's description, with the boundaries that it names. */
+/** Each sentence of the document outside its promises, with the boundaries that it names. */
 public final class DescriptionTests extends Sentences {
     private static final int[] BAD_KEYS = {-1, 10000, Integer.MIN_VALUE, Integer.MAX_VALUE};
+
+    // ---- What it is
+
+    /** Each thing that the first sentence names, in its order. */
+    private static void allThatItIs() {
+        LearnedIndex x = powers();
+        due("sorted keys", x.main(2, false), 4);
+        due("with values", x.main(2, true), 40);
+        dueSegment(x, 0, 0, 6, 1, 1, 7);
+        duePredictions(x, 22, 3, 1, 6, 2);
+        due("a bounded error", x.worst(), 2);
+        x.set(CAPACITY, 2);
+        x.put(5, 50);
+        x.remove(8);
+        due("a buffer of changes", x.count(CHANGES), 2);
+        x.put(40, 400);
+        due("merged by capacity", x.count(CHANGES), 0);
+        x.put(6, 60);
+        x.set(FACTOR, 1);
+        for (int i = 0; i < 9; i++) {
+            x.get(6);
+        }
+        due("merged by cost", x.count(CHANGES), 0);
+        x.get(1);
+        due("pages that are touched", x.count(PAGES), 1);
+        x.put(3, 30);
+        due("order statistics over both parts", x.keyAt(2), 3);
+        due("texts of entries", loaded(x, "3!;7=70"), 2);
+        due("keys below 8", x.rank(8), 6);
+    }
+
+    private static void putsIn512Calls() {
+        LearnedIndex x = new LearnedIndex();
+        x.set(CAPACITY, 20);
+        long sum = 0;
+        for (int i = 0; i < 508; i++) {
+            due("put " + i, x.put(i % 150 * 66, i), i < 150 ? 1 : 0);
+            sum += i < 508 - 150 ? 0 : i;
+        }
+        due("sum", x.sum(0, 9999), sum);
+        due("mergings", x.count(MERGINGS), 508 / 21);
+        due("changes", x.count(CHANGES), 508 % 21);
+    }
+
+    private static void lookupsIn512Calls() {
+        LearnedIndex x = new LearnedIndex();
+        x.set(CAPACITY, 20);
+        for (int key = 1; key <= 20; key++) {
+            x.put(key, key);
+        }
+        for (int i = 0; i < 488; i++) {
+            due("get", x.get(20), 20);
+        }
+        due("debt", x.count(DEBT), 488 * 20);
+        due("lookups", x.count(LOOKUPS), 488);
+        due("mean of the probes", x.meanProbes(), 0.0f);
+        LearnedIndex y = powers();
+        for (int i = 0; i < 499; i++) {
+            // Positions 2 and 4 are probed, on two pages.
+            due("get", y.get(16), 160);
+        }
+        dueTallies(y, 499, 998, 998, 0, 1);
+    }
+
+    private static void mergingsIn512Calls() {
+        LearnedIndex x = new LearnedIndex();
+        for (int i = 0; i < 255; i++) {
+            x.put(i % 150, i);
+            due("merge " + i, x.merge(), 1);
+        }
+        due("mergings", x.count(MERGINGS), 255);
+        due("positions", x.count(POSITIONS), 150);
+    }
+
+    private static void textsIn512Calls() {
+        LearnedIndex x = new LearnedIndex();
+        for (int i = 0; i < 5; i++) {
+            feedAll(x, "1!;".repeat(32) + i + "=-" + i);
+            due("load " + i, x.load(), 33);
+        }
+        due("entries", x.count(ENTRIES), 4);
+        due("sum", x.sum(0, 9), -9L);
+    }
+
+    private static void snapshotsIn512Calls() {
+        LearnedIndex x = new LearnedIndex();
+        for (int i = 0; i < 127; i++) {
+            x.put(i, i);
+            due("save " + i, x.save(), i + 1);
+            due("clear " + i, x.clear(), i + 1);
+            due("restore " + i, x.restore(), i + 1);
+        }
+        due("entries", x.count(ENTRIES), 127);
+        due("mergings", x.count(MERGINGS), 14);
+    }
+
+    private static void answersIn512Calls() {
+        LearnedIndex x = mixed();
+        for (int i = 0; i < 29; i++) {
+            due("contains", x.contains(16), true);
+            due("keyAt", x.keyAt(6), 33);
+            due("rank", x.rank(17), 4);
+            due("neighbor", x.neighbor(17, false), 16);
+            due("sum", x.sum(17, 32), 313L);
+            due("main", x.main(6, true), 330);
+            due("change", x.change(4, 2), -7);
+            due("segmentOf", x.segmentOf(16), 0);
+            due("predict", x.predict(33, 0), 4);
+            due("worst", x.worst(), 2);
+            due("fewest", x.fewest(1), 2);
+            due("leastBound", x.leastBound(1), 2);
+            due("probes", x.probes(33), 3);
+            due("meanWindow", x.meanWindow(), 33.0 / 7.0);
+            refused("meanProbes", ARITHMETIC, x::meanProbes);
+            refused("put", ARGUMENT, () -> x.put(-1, 1));
+        }
+        dueSegment(x, 0, 0, 6, 1, 1, 7);
+        dueTallies(x, 0, 0, 0, 0, 1);
+        due("changes", x.count(CHANGES), 5);
+    }
 
     // ---- Description
 
@@ -904,6 +1024,21 @@ public final class DescriptionTests extends Sentences {
         due("an empty input buffer stays empty", x.load(), 0);
     }
 
+    private static void tellWhatItIs() {
+        in("What it is");
+        says(DescriptionTests::allThatItIs, "A learned page index: sorted keys with values");
+        says(DescriptionTests::putsIn512Calls, "An object is used for at most 512 calls after it has been made");
+        says(DescriptionTests::lookupsIn512Calls, "An object is used for at most 512 calls after it has been made");
+        says(DescriptionTests::mergingsIn512Calls, "An object is used for at most 512 calls after it has been made");
+        says(DescriptionTests::textsIn512Calls, "An object is used for at most 512 calls after it has been made");
+        says(DescriptionTests::snapshotsIn512Calls, "An object is used for at most 512 calls after it has been made");
+        says(DescriptionTests::answersIn512Calls, "An object is used for at most 512 calls after it has been made");
+        in("Not promised");
+        asksNothing("How the state is held inside the object is free", "it names what is free");
+        asksNothing("Use of one object from several threads at once", "no call comes from a second thread");
+        asksNothing("Nothing is promised beyond the answers", "it names what is free");
+    }
+
     private static void describe() {
         in("Description");
         says(DescriptionTests::twoFloatingPointNumbers, "All numbers are integers, apart from two methods");
@@ -990,6 +1125,7 @@ public final class DescriptionTests extends Sentences {
 
     public static void main(String[] args) throws IOException {
         readDocument();
+        tellWhatItIs();
         describe();
         describeSegments();
         describeLookups();

@@ -18,10 +18,11 @@ abstract class Sentences extends Checks {
     private static final Set<Sentence> quoted = new HashSet<>();
     private static String part = "";
 
-    /** Reads the sentences from the description to the last promise. */
+    /** Reads the sentences from the first to the last, without the public face, which is no sentence. */
     static void readDocument() throws IOException {
         String text = Files.readString(DOCUMENT);
-        text = text.substring(text.indexOf("## Description"), text.indexOf("## Not promised"));
+        text = text.substring(text.indexOf("## What it is"), text.indexOf("## The public face"))
+            + text.substring(text.indexOf("## Description"));
         for (String paragraph : text.split("\\n\\s*\\n")) {
             boolean isSignature = paragraph.matches("`LearnedIndex\\(\\)`|`\\w+ \\w+\\(.*`");
             if (paragraph.startsWith("## ")) {
@@ -78,7 +79,7 @@ abstract class Sentences extends Checks {
         }
     }
 
-    /** Ends the tests of the promises, or of the description: each of their sentences must have been quoted. */
+    /** Ends the tests of the promises, or of all else: each of their sentences must have been quoted. */
     static void endSentences(boolean isOfPromises) {
         subject = "the document";
         for (Sentence sentence : document) {
